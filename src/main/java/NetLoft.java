@@ -2,7 +2,8 @@
 public final class NetLoft {
     public static final int NONE = -1;
 
-    private static final int HELD_UP = -2;
+    private static final int UNDER_NEEDLE = -2;
+    private static final int NO_PART = -2;
     private static final int MOST_PANELS = 12;
     private static final int MOST_ROWS = 20;
     private static final int MOST_PLACES = 24;
@@ -231,7 +232,7 @@ public final class NetLoft {
             return twines;
         }
         if (holeToMend.hasNeedle(at)) {
-            return HELD_UP;
+            return UNDER_NEEDLE;
         }
         wayAtHand.walk(at, holeToMend.beginning());
         return 1;
@@ -318,8 +319,8 @@ public final class NetLoft {
             return NONE;
         }
         int opening = openingOf(at);
-        if (opening == HELD_UP) {
-            return HELD_UP;
+        if (opening == NO_PART) {
+            return NO_PART;
         }
         return 100 * g < 4 * at.bar * opening ? 1 : 0;
     }
@@ -406,10 +407,10 @@ public final class NetLoft {
 
     private int openingOf(Panel at) {
         if (at.net <= 0) {
-            return HELD_UP;
+            return NO_PART;
         }
         int asked = 100 * at.rope / at.net;
-        return within(asked, 0, partCount - 1) ? partValues[asked] : HELD_UP;
+        return within(asked, 0, partCount - 1) ? partValues[asked] : NO_PART;
     }
 
     /** A ROW of KNOTS with the SIDES by which they hang in the ROW above; without places it is MISSING. */
@@ -505,7 +506,11 @@ public final class NetLoft {
         }
 
         boolean isGone(int k, int place) {
-            return hangsBy(k, place) && (gone[k] >> (place - firsts[k]) & 1) == 1;
+            return hangsBy(k, place) && sideIsGone(k, place - firsts[k]);
+        }
+
+        boolean sideIsGone(int k, int s) {
+            return (gone[k] >> s & 1) == 1;
         }
 
         boolean isWhole(int k, int place) {
@@ -522,7 +527,7 @@ public final class NetLoft {
             }
         }
 
-        int totalOf(int what) {
+        int countOver(int what) {
             int total = 0;
             for (int k = 0; k < places; k++) {
                 total += shareOf(k, what);
@@ -584,9 +589,9 @@ public final class NetLoft {
 
         void appendCopies(Panel other) {
             for (int r = 0; r < other.rowCount; r++) {
-                Row copied = other.rowAt(r);
-                if (copied != null) {
-                    append(copied.copied());
+                Row source = other.rowAt(r);
+                if (source != null) {
+                    append(source.copied());
                 }
             }
         }
@@ -690,7 +695,7 @@ public final class NetLoft {
             int total = 0;
             for (int r = 0; r < rowCount; r++) {
                 Row counted = rowAt(r);
-                total += counted == null ? 0 : counted.totalOf(what);
+                total += counted == null ? 0 : counted.countOver(what);
             }
             return total;
         }
@@ -1015,7 +1020,7 @@ public final class NetLoft {
             for (int j = 0; j < below.places; j++) {
                 for (int s = 0; s < below.sides[j]; s++) {
                     int k = below.firsts[j] + s;
-                    wholeSides[k] += below.isWhole(j, k) ? 1 : 0;
+                    wholeSides[k] += below.sideIsGone(j, s) ? 0 : 1;
                 }
             }
         }
@@ -1033,7 +1038,7 @@ public final class NetLoft {
                 upper[r + 1][j] = 0;
                 for (int s = 0; s < below.sides[j]; s++) {
                     int k = below.firsts[j] + s;
-                    if (wholeSides[k] > 0 && below.isWhole(j, k)) {
+                    if (wholeSides[k] > 0 && !below.sideIsGone(j, s)) {
                         upper[r + 1][j] += upper[r][k] / wholeSides[k];
                     }
                 }
