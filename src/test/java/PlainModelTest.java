@@ -1,4 +1,5 @@
 import java.lang.reflect.Method;
+import java.lang.reflect.Modifier;
 import java.math.BigInteger;
 import java.util.ArrayList;
 import java.util.Collections;
@@ -7,6 +8,7 @@ import java.util.LinkedHashSet;
 import java.util.List;
 import java.util.Map;
 import java.util.Set;
+import java.util.TreeSet;
 
 /** Many runs of calls on NetLoft and on a plain model of the document, made of lists of KNOTS and SIDES, side by side. */
 public final class PlainModelTest {
@@ -14,6 +16,13 @@ public final class PlainModelTest {
   private static final int CALLS = 500;
   private static final int LONG_WAYS = 40;
   private static final int DEEP_LOADS = 40;
+  private static final int CALLS_ON_SCENE = 480;
+  private static final int[] WIDEST = {Integer.MIN_VALUE, Integer.MIN_VALUE + 9, -1, 0, 1, 2, 3, 11, Integer.MAX_VALUE};
+  /** Two PANELS, a third one of both, a HOLE, a WAY, a TAPER and a seam at hand. */
+  private static final Object[][] SCENE = {{"panel", 2, 20, 5}, {"kind", 0, 1, 1}, {"row", 0}, {"row", 0}, {"pull", 0, 1, 9},
+    {"panel", 2, 30, 4}, {"row", 1}, {"sew", 0, 1}, {"tear", 1, 1}, {"taper", 12, 8, 11}, {"part", 100, 60},
+    {"cut", 2, 1, 0}, {"side", 0, 1, 1, 0, false}, {"mend", 0, 1, 1}, {"side", 0, 2, 1, 0, false}, {"needle", 0, 2, 2, true},
+    {"hole", 0, 2, 1}};
   private static final Map<String, Method> ON_LOFT = new HashMap<>();
   private static final Map<String, Method> ON_MODEL = new HashMap<>();
 
@@ -38,6 +47,7 @@ public final class PlainModelTest {
     for (Method m : Model.class.getDeclaredMethods()) ON_MODEL.put(m.getName(), m);
     int wrong = 0;
     for (int run = 0; run < RUNS && wrong < 5; run++) wrong += runOnce(run);
+    wrong += widestArguments();
     wrong += longestWay();
     for (int run = 0; run < LONG_WAYS && wrong < 5; run++) wrong += longWay(run);
     for (int run = 0; run < DEEP_LOADS && wrong < 5; run++) wrong += deepLoads(run);
@@ -61,6 +71,49 @@ public final class PlainModelTest {
       told.append(chosen[0]).append(java.util.Arrays.toString(arguments)).append(" -> ").append(got).append('\n');
       if (!got.equals(want)) {
         System.out.println("run " + run + ":\n" + told + "due is " + want);
+        return 1;
+      }
+    }
+    return 0;
+  }
+
+  /** Each call with all that its arguments can be at the ends of an int and about the bounds of a small PANEL. */
+  private static int widestArguments() throws Exception {
+    int wrong = 0;
+    for (String name : new TreeSet<>(ON_MODEL.keySet())) {
+      Method onModel = ON_MODEL.get(name);
+      if (!Modifier.isPublic(onModel.getModifiers())) continue;
+      Class<?>[] types = onModel.getParameterTypes();
+      int all = 1;
+      for (Class<?> type : types) all *= type == boolean.class ? 2 : WIDEST.length;
+      for (int from = 0; from < all && wrong < 5; from += CALLS_ON_SCENE) {
+        wrong += callsOnScene(name, types, from, Math.min(all, from + CALLS_ON_SCENE));
+      }
+    }
+    return wrong;
+  }
+
+  private static int callsOnScene(String name, Class<?>[] types, int from, int end) throws Exception {
+    NetLoft loft = new NetLoft();
+    Model model = new Model();
+    for (Object[] call : SCENE) {
+      Object[] arguments = java.util.Arrays.copyOfRange(call, 1, call.length);
+      ON_LOFT.get(call[0]).invoke(loft, arguments);
+      ON_MODEL.get(call[0]).invoke(model, arguments);
+    }
+    for (int which = from; which < end; which++) {
+      Object[] arguments = new Object[types.length];
+      int rest = which;
+      for (int i = 0; i < types.length; i++) {
+        boolean flag = types[i] == boolean.class;
+        int ways = flag ? 2 : WIDEST.length;
+        arguments[i] = flag ? (Object) (rest % 2 == 0) : (Object) WIDEST[rest % ways];
+        rest /= ways;
+      }
+      String got = ON_LOFT.get(name).invoke(loft, arguments).toString();
+      String want = ON_MODEL.get(name).invoke(model, arguments).toString();
+      if (!got.equals(want)) {
+        System.out.println(name + java.util.Arrays.toString(arguments) + " answered " + got + ", due is " + want);
         return 1;
       }
     }
