@@ -49,6 +49,7 @@ public final class PlainModelTest {
     for (int run = 0; run < RUNS && wrong < 5; run++) wrong += runOnce(run);
     wrong += widestArguments();
     wrong += longestWay();
+    wrong += longestWayOfGains();
     for (int run = 0; run < LONG_WAYS && wrong < 5; run++) wrong += longWay(run);
     for (int run = 0; run < DEEP_LOADS && wrong < 5; run++) wrong += deepLoads(run);
     System.out.println(wrong == 0 ? "all runs go with the model" : wrong + " runs differ from the model");
@@ -156,6 +157,56 @@ public final class PlainModelTest {
     return 1;
   }
 
+  /** GAINS and TAKES by turns make the most SIDES, 58 or 59 a ROW; nearly all of them are GONE, in one HOLE of one TWINE. */
+  private static int longestWayOfGains() {
+    NetLoft loft = new NetLoft();
+    Model model = new Model();
+    loft.panel(24, 1, 1);
+    model.panel(24, 1, 1);
+    for (int r = 1; r < 20; r++) {
+      for (int k = 0; k < 24; k++) {
+        int kind = r % 2 == 1 ? 1 + k % 2 : k == 0 || k == 23 ? 0 : 2 - k % 2;
+        loft.kind(0, k, kind);
+        model.kind(0, k, kind);
+      }
+      loft.row(0);
+      model.row(0);
+    }
+    Pan pan = model.pan(0);
+    for (Knot knot : pan.all()) {
+      for (Side side : knot.own) toggle(loft, pan, side);
+    }
+    List<Knot> odd = pan.all();
+    odd.removeIf(knot -> pan.goneAt(knot) % 2 == 0);
+    while (odd.size() > 2) togglePath(loft, pan, odd);
+    System.out.println("the longest way goes along " + loft.panelOf(0, 8) + " sides");
+    return loft.panelOf(0, 8) > 1000 && loft.panelOf(0, 8) == pan.goneSides().size() ? mendAll(-2, loft, model) : 1;
+  }
+
+  private static void toggle(NetLoft loft, Pan pan, Side side) {
+    side.gone = !side.gone;
+    int code = pan.code(side.lower);
+    loft.side(0, code / 100, code % 100, side.lower.own.indexOf(side), !side.gone);
+  }
+
+  /** Toggles the SIDES from the first ODD one to the nearest other one: neither is ODD then, and no other becomes so. */
+  private static void togglePath(NetLoft loft, Pan pan, List<Knot> odd) {
+    Knot from = odd.remove(0);
+    Map<Knot, Side> by = new HashMap<>();
+    List<Knot> queue = new ArrayList<>(List.of(from));
+    for (int i = 0; i < queue.size(); i++) {
+      Knot at = queue.get(i);
+      if (odd.remove(at)) {
+        for (Knot back = at; back != from; back = by.get(back).other(back)) toggle(loft, pan, by.get(back));
+        return;
+      }
+      for (Side side : pan.sidesAt(at)) {
+        Knot next = side.other(at);
+        if (next != from && by.putIfAbsent(next, side) == null) queue.add(next);
+      }
+    }
+  }
+
   private static void buildDeep(NetLoft loft, Model model, int rows) {
     int w = between(2, 24);
     int strength = between(1, 150);
@@ -204,9 +255,7 @@ public final class PlainModelTest {
       List<Side> sides = pan.sidesAt(at);
       if (sides.isEmpty()) return;
       Side side = sides.get(below(sides.size()));
-      side.gone = !side.gone;
-      int code = pan.code(side.lower);
-      loft.side(0, code / 100, code % 100, side.lower.own.indexOf(side), !side.gone);
+      toggle(loft, pan, side);
       at = side.other(at);
     }
   }

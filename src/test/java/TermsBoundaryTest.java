@@ -694,7 +694,7 @@ public final class TermsBoundaryTest {
       due("mend(0, 1, 0)", x.mend(0, 1, 0), 1);
       way(x, 0, 100);
     });
-    holds("by which it goes along each GONE SIDE of the HOLE once: the longest WAY", TermsBoundaryTest::longestWay);
+    holds("by which it goes along each GONE SIDE of the HOLE once: a WAY of 875 SIDES", TermsBoundaryTest::longWay);
     holds("All its SIDES are whole then, and no other's", x -> {
       plain(x, 3, 2);
       gone(x, 0, new int[] {1, 0, 0}, new int[] {1, 1, 0}, new int[] {1, 1, 1});
@@ -706,7 +706,7 @@ public final class TermsBoundaryTest {
   }
 
   /** All SIDES of 20 ROWS of 24 are GONE, but for those that leave just 1800 and 1923 ODD. */
-  private static void longestWay(NetLoft x) {
+  private static void longWay(NetLoft x) {
     plain(x, 24, 20);
     for (int r = 1; r < 20; r += 2) {
       for (int k = 0; k < 24; k++) x.cut(0, r, k);
@@ -743,6 +743,15 @@ public final class TermsBoundaryTest {
       plain(x, 2, 3);
       gone(x, 0, new int[] {1, 0, 1}, new int[] {1, 1, 0}, new int[] {2, 0, 0}, new int[] {2, 0, 1});
       due("mend(0, 2, 0)", x.mend(0, 2, 0), 1);
+      way(x, 1, 100, 200, 101, 1);
+    });
+    holds("without any, at the KNOT that comes first, though a greater HOLE with ODD ones was looked at ahead of it", x -> {
+      plain(x, 3, 3);
+      x.cut(0, 1, 1);
+      due("mend(0, 1, 1)", x.mend(0, 1, 1), 2);
+      plain(x, 2, 3);
+      gone(x, 1, new int[] {1, 0, 1}, new int[] {1, 1, 0}, new int[] {2, 0, 0}, new int[] {2, 0, 1});
+      due("mend(1, 2, 0)", x.mend(1, 2, 0), 1);
       way(x, 1, 100, 200, 101, 1);
     });
     holds("the one whose second KNOT comes first, of these whose third one does", x -> {
