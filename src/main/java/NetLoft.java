@@ -425,7 +425,7 @@ public final class NetLoft {
         final int[] gone = new int[MOST_PLACES];
 
         Row(int places) {
-            this.places = places;
+            this.places = within(places, 0, MOST_PLACES) ? places : 0;
             for (int k = 0; k < MOST_PLACES; k++) {
                 gives[k] = 1;
             }
@@ -499,6 +499,10 @@ public final class NetLoft {
 
         int placeOfSide(int k, int s) {
             return within(s, 0, sides[k] - 1) ? firsts[k] + s : NONE;
+        }
+
+        int placeOfWholeSide(int k, int s) {
+            return sideIsGone(k, s) ? NONE : placeOfSide(k, s);
         }
 
         boolean hangsBy(int k, int place) {
@@ -739,10 +743,10 @@ public final class NetLoft {
         }
 
         private void reach(int r, int k) {
-            if (!within(r, 0, MOST_ROWS - 1) || queued >= MOST_KNOTS) {
+            if (!within(r, 0, MOST_ROWS - 1) || !within(k, 0, MOST_PLACES - 1)) {
                 return;
             }
-            if (reached[r][k] == 0) {
+            if (reached[r][k] == 0 && queued < MOST_KNOTS) {
                 reached[r][k] = 1;
                 queue[queued] = ROW_CODE * r + k;
                 queued++;
@@ -1019,8 +1023,10 @@ public final class NetLoft {
             }
             for (int j = 0; j < below.places; j++) {
                 for (int s = 0; s < below.sides[j]; s++) {
-                    int k = below.firsts[j] + s;
-                    wholeSides[k] += below.sideIsGone(j, s) ? 0 : 1;
+                    int k = below.placeOfWholeSide(j, s);
+                    if (within(k, 0, MOST_PLACES - 1)) {
+                        wholeSides[k]++;
+                    }
                 }
             }
         }
@@ -1037,8 +1043,8 @@ public final class NetLoft {
             for (int j = 0; j < below.places; j++) {
                 upper[r + 1][j] = 0;
                 for (int s = 0; s < below.sides[j]; s++) {
-                    int k = below.firsts[j] + s;
-                    if (wholeSides[k] > 0 && !below.sideIsGone(j, s)) {
+                    int k = below.placeOfWholeSide(j, s);
+                    if (within(k, 0, MOST_PLACES - 1) && wholeSides[k] > 0) {
                         upper[r + 1][j] += upper[r][k] / wholeSides[k];
                     }
                 }

@@ -5,7 +5,9 @@ import java.lang.reflect.Method;
 import java.lang.reflect.Modifier;
 import java.nio.file.Files;
 import java.nio.file.Path;
+import java.util.ArrayList;
 import java.util.Arrays;
+import java.util.List;
 import java.util.TreeSet;
 
 /** The public face is the document's, no more and no less, and the source keeps off what LANGUAGE.md forbids. */
@@ -21,12 +23,18 @@ public final class FaceTest {
     "int weak(int)", "int count(int)", "int panelOf(int,int)"};
   private static final String[] FORBIDDEN = {
     "throw", "try", "catch", "synchronized", "assert", "import", "->", "::", "System.out", "Exact(", "package"};
+  private static final int MOST_PARAMETERS = 7;
+  private static final int MOST_CLASSES = 12;
+  private static final int MOST_FIELDS = 20;
+  private static final int MOST_LINES = 60;
   private static int wrong = 0;
 
   public static void main(String[] args) throws Exception {
     checkMethods();
     checkMembers();
     checkSource();
+    checkSizes();
+    checkMethodLengths();
     System.out.println(wrong == 0 ? "the face is as due" : wrong + " faults of the face");
     if (wrong != 0) System.exit(1);
   }
@@ -85,6 +93,47 @@ public final class FaceTest {
       boolean plain = Character.isLetter(word.charAt(0)) && Character.isLetter(word.charAt(word.length() - 1));
       String sought = plain ? "(?s).*\\b" + word + "\\b.*" : "(?s).*\\Q" + word + "\\E.*";
       if (code.matches(sought)) fault("the source has '" + word + "'");
+    }
+  }
+
+  /** Rules 2, 3, 5 and 11 of LANGUAGE.md, as far as reflection tells. */
+  private static void checkSizes() {
+    List<Class<?>> classes = new ArrayList<>(List.of(NetLoft.class.getDeclaredClasses()));
+    classes.add(NetLoft.class);
+    if (classes.size() > MOST_CLASSES) fault(classes.size() + " classes");
+    for (Class<?> one : classes) {
+      if (one != NetLoft.class && one.getDeclaredClasses().length > 0) fault("classes inside " + one);
+      int fields = 0;
+      for (Field f : one.getDeclaredFields()) {
+        boolean fixed = Modifier.isStatic(f.getModifiers());
+        fields += fixed ? 0 : 1;
+        if (fixed && (!Modifier.isFinal(f.getModifiers()) || !f.getType().isPrimitive())) fault("no constant: " + f);
+        if (!isAllowed(f.getType())) fault("of another type: " + f);
+      }
+      if (fields > MOST_FIELDS) fault(fields + " fields in " + one);
+      for (Method m : one.getDeclaredMethods()) {
+        if (m.getParameterCount() > MOST_PARAMETERS) fault("too many parameters: " + m);
+        if (m.isSynthetic()) fault("not written: " + m);
+      }
+    }
+  }
+
+  private static boolean isAllowed(Class<?> type) {
+    Class<?> one = type.isArray() ? type.getComponentType() : type;
+    if (one.isArray()) return one.getComponentType().isPrimitive();
+    return one.isPrimitive() || one.getName().startsWith("NetLoft$") || one == String.class;
+  }
+
+  /** A method of the class begins with 4 signs of space, one of a class inside it with 8, and ends in the same column. */
+  private static void checkMethodLengths() throws Exception {
+    List<String> lines = Files.readAllLines(Path.of("src/main/java/NetLoft.java"));
+    for (int i = 0; i < lines.size(); i++) {
+      if (!lines.get(i).matches("( {4}| {8})[a-z].*\\) \\{")) continue;
+      String end = lines.get(i).startsWith("        ") ? "        }" : "    }";
+      if (lines.get(i).trim().matches("(if|for|while|switch) .*")) continue;
+      int length = 1;
+      while (i + length < lines.size() && !lines.get(i + length).equals(end)) length++;
+      if (length >= MOST_LINES) fault("a method of " + (length + 1) + " lines: " + lines.get(i).trim());
     }
   }
 }
